@@ -24,6 +24,7 @@ public final class ComparedRunsTest {
             new ComparedRunsTest("bunched", seed).bunched();
             new ComparedRunsTest("scarce", seed).scarce();
         }
+        for (int seed = 0; seed < 4 && !Due.anyWrong(); seed++) new ComparedRunsTest("lasting", seed).lasting();
         new ComparedRunsTest("wide", 1).wide();
         Due.end();
     }
@@ -82,6 +83,18 @@ public final class ComparedRunsTest {
             if (random.nextInt(60) == 0) gate(drawn(1, 40), drawn(1, 60), drawn(1, 200));
             pass(drawn(1, 400));
             for (int i = 0; i < 3; i++) ask();
+        }
+        askAll();
+    }
+
+    /** So many answers that the places of samples are used over and over. */
+    private void lasting() {
+        gate(1, 60, drawn(20, 200));
+        for (int i = 0; i < 12; i++) {
+            stock(0, 5000);
+            if (i % 4 == 3) stock(1, drawn(1, 900));
+            pass(drawn(1500, 2000));
+            for (int k = 0; k < 20; k++) ask();
         }
         askAll();
     }
