@@ -22,6 +22,7 @@ public final class ModelSender {
 
     private static final int START = 0, DRAIN = 1, CRUISE = 2, PROBE = 3;
     private static final int[] CRUISE_GAINS = {125, 75, 100, 100, 100, 100, 100, 100};
+    private static final int FIRST_PHASE = 2;
     private static final int START_GAIN = 289, DRAIN_GAIN = 35, EVEN_GAIN = 100;
     private static final int LEAST_WINDOW = 4, FIRST_WINDOW = 10;
     private static final int MOST_SENT_A_TICK = 8;
@@ -639,10 +640,10 @@ public final class ModelSender {
                 watchTop(sender.best);
             }
             if (state == START && full) {
-                enter(DRAIN, now);
+                enter(DRAIN, sender, now);
             }
             if (state == DRAIN && sender.onWay.count <= sender.product()) {
-                enterCruise(sender, now);
+                enter(CRUISE, sender, now);
             }
             if (state == CRUISE && phaseIsOver(sender, now)) {
                 beginPhase(phase + 1 < CRUISE_GAINS.length ? phase + 1 : 0, sender, now);
@@ -650,8 +651,7 @@ public final class ModelSender {
             if (state == PROBE) {
                 probe(sender, now);
             } else if (stale) {
-                enter(PROBE, now);
-                end = NO_END;
+                enter(PROBE, sender, now);
             }
         }
 
@@ -687,17 +687,8 @@ public final class ModelSender {
                 }
             } else if (now >= end) {
                 sender.leastAt = now;
-                if (full) {
-                    enterCruise(sender, now);
-                } else {
-                    enter(START, now);
-                }
+                enter(full ? CRUISE : START, sender, now);
             }
-        }
-
-        private void enterCruise(Sender sender, int now) {
-            enter(CRUISE, now);
-            beginPhase(2, sender, now);
         }
 
         private void beginPhase(int which, Sender sender, int now) {
@@ -706,8 +697,11 @@ public final class ModelSender {
             lossesBefore = sender.losses;
         }
 
-        private void enter(int which, int now) {
+        private void enter(int which, Sender sender, int now) {
             state = which;
+            // A phase tells nothing but in CRUISE, an end nothing but in PROBE, so both may begin with any state.
+            beginPhase(FIRST_PHASE, sender, now);
+            end = NO_END;
             int place = Math.floorMod(turns, TURNS_KEPT);
             turnTicks[place] = now;
             turnStates[place] = which;
