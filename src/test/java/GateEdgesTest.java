@@ -606,7 +606,11 @@ public final class GateEdgesTest {
         Due.is("none waits", x.ofGate(WAITING), 0);
         Due.is("two did", x.ofGate(MOST), 2);
         // BEST is 0 as no answer came yet, so 8 more fit the tick, and 7 the WINDOW of 10.
-        x.stock(0, 3);
+        x.stock(0, 2);
+        x.pass(1);
+        Due.is("one waits", x.ofGate(WAITING), 1);
+        Due.is("two did before", x.ofGate(MOST), 2);
+        x.stock(0, 1);
         x.pass(1);
         Due.is("two again", x.ofGate(MOST), 2);
         x.stock(0, 1);

@@ -696,6 +696,7 @@ public final class SenderEdgesTest {
         fourAtLeastInCruise();
         windowInProbe();
         windowInProbeAsBestIsNought();
+        widestWindow();
     }
 
     /** "else 10, if BEST is 0 or there is no LEAST". */
@@ -770,6 +771,7 @@ public final class SenderEdgesTest {
         Due.is("PROBE", x.ofSender(0, STATE), 3);
         Due.is("PRODUCT: 50 times 240", x.ofSender(0, PRODUCT), 12);
         Due.is("WINDOW", x.ofSender(0, WINDOW), 4);
+        Due.is("GAIN", x.ofSender(0, GAIN), 100);
         x.stock(0, 9);
         Scenes.till(x, 2041);
         Due.is("no more are sent", x.ofSender(0, ON_WAY), 4);
@@ -784,6 +786,30 @@ public final class SenderEdgesTest {
         x.stock(0, 9);
         x.pass(1);
         Due.is("four are sent", x.ofSender(0, ON_WAY), 4);
+    }
+
+    /** A letter leaves in each TICK, so that BEST is 1000 and PRODUCT as LEAST; and WINDOW is more than can be on the way. */
+    private static void widestWindow() {
+        ModelSender x = new ModelSender();
+        x.gate(1, 60, 200);
+        for (int i = 0; i < 4; i++) x.stock(0, 5000);
+        Scenes.till(x, 1600);
+        Due.is("START", x.ofSender(0, STATE), 0);
+        Due.is("BEST", x.ofSender(0, BEST), 1000);
+        Due.is("LEAST", x.ofSender(0, LEAST), 201);
+        Due.is("PRODUCT", x.ofSender(0, PRODUCT), 201);
+        Due.is("WINDOW: 58089 by 100", x.ofSender(0, WINDOW), 580);
+        // The gate stands still for 40 TICKS: the room gets full, and is full still as 200 more have left.
+        x.gate(40, 60, 200);
+        x.pass(70);
+        Due.is("the ROOM is full", x.ofGate(0), 60);
+        x.gate(1, 60, 200);
+        x.pass(239);
+        Due.is("one is served, 60 wait, 200 have left", x.ofSender(0, ON_WAY), 261);
+        Due.is("the last that left", x.letter(0, 199, 3), 1);
+        Due.is("the one served", x.letter(0, 200, 3), 0);
+        Due.is("the last one", x.letter(0, 260, 0), x.ofSender(0, SENT) - 1);
+        Due.is("no other", x.letter(0, 261, 0), -1);
     }
 
     private static void lettersOnTheWay() {

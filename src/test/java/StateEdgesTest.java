@@ -46,6 +46,7 @@ public final class StateEdgesTest {
         letterIsLimited();
         justAQuarterMore();
         oneLessThanAQuarterMore();
+        halfLessThanAQuarterMore();
         flatBecomesNought();
         flatIsTwo();
         flatIsThree();
@@ -105,6 +106,19 @@ public final class StateEdgesTest {
         Due.is("ROUND 2", x.ofSender(0, ROUNDS), 2);
         Due.is("BEST", x.ofSender(0, BEST), 49);
         Due.is("TOP stays", x.model(0, TOP), 40);
+        Due.is("FLAT is 1 more", x.model(0, FLAT), 1);
+    }
+
+    private static void halfLessThanAQuarterMore() {
+        ModelSender x = new ModelSender();
+        x.gate(16, 60, 4);
+        x.stock(0, 5000);
+        // As in the slow scene: answers at 20, 36, 52 and so on; the 11th letter is sent at 116 and answered at 180, 4000 by 64.
+        Scenes.till(x, 181);
+        Due.is("ROUND 2", x.ofSender(0, ROUNDS), 2);
+        Due.is("BEST", x.ofSender(0, BEST), 62);
+        // 6200 is less than 125 times 50.
+        Due.is("TOP stays", x.model(0, TOP), 50);
         Due.is("FLAT is 1 more", x.model(0, FLAT), 1);
     }
 
