@@ -155,6 +155,7 @@ public final class SenderEdgesTest {
     /** "the LETTER has the next number (of this SENDER, from 0 on)". */
     private static void numbersFromNoughtOn() {
         ModelSender x = new ModelSender();
+        x.guests(50);
         x.stock(0, 2);
         x.stock(1, 2);
         x.pass(1);
@@ -165,7 +166,8 @@ public final class SenderEdgesTest {
         x.pass(100);
         x.stock(1, 1);
         x.pass(1);
-        Due.is("numbers go on when none is on the way", x.letter(1, 0, 0), 2);
+        Due.is("guests left", x.ofGate(4), 2);
+        Due.is("numbers go on when none is on the way, without guests", x.letter(1, 0, 0), 2);
         Due.is("it has not left", x.letter(1, 0, 3), 0);
         Due.is("SENT is NOW", x.letter(1, 0, 1), 101);
     }
