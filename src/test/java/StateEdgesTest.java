@@ -47,6 +47,7 @@ public final class StateEdgesTest {
         justAQuarterMore();
         oneLessThanAQuarterMore();
         halfLessThanAQuarterMore();
+        bestAndTopAreNought();
         flatBecomesNought();
         flatIsTwo();
         flatIsThree();
@@ -120,6 +121,33 @@ public final class StateEdgesTest {
         // 6200 is less than 125 times 50.
         Due.is("TOP stays", x.model(0, TOP), 50);
         Due.is("FLAT is 1 more", x.model(0, FLAT), 1);
+    }
+
+    /** 100 times 0 is no less than 125 times 0. */
+    private static void bestAndTopAreNought() {
+        ModelSender x = new ModelSender();
+        x.gate(40, 48, 200);
+        x.guests(1);
+        Scenes.till(x, 60);
+        Due.is("guests alone fill the ROOM", x.ofGate(0), 48);
+        x.gate(40, 51, 200);
+        x.stock(0, 5000);
+        // At 60 a guest and two letters find a place, LIMITED; then one letter is dropped in each TICK, so STOCK is not 0.
+        // Behind the one served till 80 and 49 more they leave at 2080 and 2120: 1000 by 2220 and 2000 by 2260 are 0.
+        Due.is("both answers", Scenes.till(x, 2330), 2);
+        Due.is("LIMIT 1 is passed", x.ofSender(0, 11), 0);
+        x.gate(40, 53, 200);
+        x.stock(0, 5000);
+        x.pass(1);
+        Due.is("one letter found a place", x.letter(0, 0, 1), 2330);
+        Due.is("it is not LIMITED", x.letter(0, 0, 2), 0);
+        // Behind the one served till 2360 and 52 more it leaves at 4480.
+        Due.is("no answer before 4680", Scenes.till(x, 4680), 0);
+        Due.is("its answer", x.pass(1), 1);
+        Due.is("ROUND 2", x.ofSender(0, ROUNDS), 2);
+        Due.is("BEST", x.ofSender(0, BEST), 0);
+        Due.is("TOP", x.model(0, TOP), 0);
+        Due.is("FLAT", x.model(0, FLAT), 0);
     }
 
     /** "TOP becomes BEST, FLAT 0". */
