@@ -163,7 +163,7 @@ public final class ModelSender {
         if (!within(n, 1, ROUNDS_KEPT)) {
             return OUTSIDE;
         }
-        return sender.samples.greatestOfLast(n, sender.rounds);
+        return sender.samples.greatestOfLast(n);
     }
 
     public int letter(int s, int k, int what) {
@@ -215,12 +215,12 @@ public final class ModelSender {
 
     public int turn(int s, int k, int what) {
         Sender sender = senderOf(s);
-        if (sender == null || !within(k, 0, sender.course.turnsKept() - 1)) {
+        if (sender == null || !within(k, 0, sender.course.turnsKept - 1)) {
             return UNKNOWN;
         }
         switch (what) {
-            case 0: return sender.course.turnTickOf(k);
-            case 1: return sender.course.turnStateOf(k);
+            case 0: return sender.course.turnTicks[k];
+            case 1: return sender.course.turnStates[k];
             default: return OUTSIDE;
         }
     }
@@ -407,7 +407,7 @@ public final class ModelSender {
         }
     }
 
-    /** Rates in a ring, the oldest first; how many of each of the last rounds, and their greatest. */
+    /** Rates in a ring, the oldest first; by how many rounds ago, how many they are and the greatest of them. */
     private static final class Samples {
         final int[] rates = new int[MOST_SAMPLES];
         final int[] counts = new int[ROUNDS_KEPT];
@@ -415,41 +415,40 @@ public final class ModelSender {
         int first;
         int count;
 
-        /** The samples of the round that is now too old go; they have the place that the new round takes. */
-        void beginRound(int rounds) {
-            int place = Math.floorMod(rounds, ROUNDS_KEPT);
-            first = ringPlace(counts[place]);
-            count -= counts[place];
-            counts[place] = 0;
-            greatest[place] = 0;
+        /** All are a round older, and those that are too old then go. */
+        void beginRound() {
+            int gone = counts[ROUNDS_KEPT - 1];
+            first = ringPlace(gone);
+            count -= gone;
+            for (int back = ROUNDS_KEPT - 1; back > 0; back--) {
+                counts[back] = counts[back - 1];
+                greatest[back] = greatest[back - 1];
+            }
+            counts[0] = 0;
+            greatest[0] = 0;
         }
 
-        void keep(int rounds, int rate) {
-            int next = ringPlace(count);
-            if (count >= rates.length || next < 0 || next >= rates.length) {
+        void keep(int rate) {
+            int place = ringPlace(count);
+            if (count >= rates.length || place < 0 || place >= rates.length) {
                 return;
             }
-            rates[next] = rate;
+            rates[place] = rate;
             count++;
-            int place = Math.floorMod(rounds, ROUNDS_KEPT);
-            counts[place]++;
-            greatest[place] = Math.max(greatest[place], rate);
+            counts[0]++;
+            greatest[0] = Math.max(greatest[0], rate);
         }
 
         int greatestOfAll() {
-            int found = 0;
-            for (int i = 0; i < greatest.length; i++) {
-                found = Math.max(found, greatest[i]);
-            }
-            return found;
+            return Math.max(0, greatestOfLast(ROUNDS_KEPT));
         }
 
-        int greatestOfLast(int n, int rounds) {
+        /** NONE, if there is no sample of these rounds. */
+        int greatestOfLast(int n) {
             int found = NONE;
-            for (int i = 0; i < n && i < ROUNDS_KEPT; i++) {
-                int place = Math.floorMod(rounds - i, ROUNDS_KEPT);
-                if (counts[place] > 0) {
-                    found = Math.max(found, greatest[place]);
+            for (int back = 0; back < n && back < ROUNDS_KEPT; back++) {
+                if (counts[back] > 0) {
+                    found = Math.max(found, greatest[back]);
                 }
             }
             return found;
@@ -463,7 +462,7 @@ public final class ModelSender {
         int roundsOf(int k, int rounds) {
             int older = 0;
             for (int back = ROUNDS_KEPT - 1; back >= 0; back--) {
-                older += counts[Math.floorMod(rounds - back, ROUNDS_KEPT)];
+                older += counts[back];
                 if (k < older) {
                     return rounds - back;
                 }
@@ -590,7 +589,7 @@ public final class ModelSender {
             if (roundBegan) {
                 rounds++;
                 mark = delivered;
-                samples.beginRound(rounds);
+                samples.beginRound();
             }
             learnRate(letter, now);
             boolean stale = least != NONE && now - leastAt > STALE_AFTER;
@@ -605,7 +604,7 @@ public final class ModelSender {
         private void learnRate(Letter letter, int now) {
             int rate = 1000 * (delivered - letter.delivered) / Math.max(1, now - letter.at);
             if (!letter.limited || rate >= best) {
-                samples.keep(rounds, rate);
+                samples.keep(rate);
             }
             best = samples.greatestOfAll();
         }
@@ -622,6 +621,8 @@ public final class ModelSender {
         int top;
         int flat;
         int turns;
+        // The last turns, the oldest first.
+        int turnsKept;
         final int[] turnTicks = new int[TURNS_KEPT];
         final int[] turnStates = new int[TURNS_KEPT];
 
@@ -702,30 +703,28 @@ public final class ModelSender {
             // A phase tells nothing but in CRUISE, an end nothing but in PROBE, so both may begin with any state.
             beginPhase(FIRST_PHASE, sender, now);
             end = NO_END;
-            int place = Math.floorMod(turns, TURNS_KEPT);
-            turnTicks[place] = now;
-            turnStates[place] = which;
+            keepTurn(which, now);
+        }
+
+        private void keepTurn(int which, int now) {
             turns++;
+            if (turnsKept < TURNS_KEPT) {
+                turnsKept++;
+            } else {
+                for (int k = 1; k < TURNS_KEPT; k++) {
+                    turnTicks[k - 1] = turnTicks[k];
+                    turnStates[k - 1] = turnStates[k];
+                }
+            }
+            int last = turnsKept - 1;
+            if (last >= 0 && last < TURNS_KEPT) {
+                turnTicks[last] = now;
+                turnStates[last] = which;
+            }
         }
 
         int ticksToEnd(int now) {
             return state == PROBE && end != NO_END ? Math.max(0, end - now) : NONE;
-        }
-
-        int turnsKept() {
-            return Math.min(turns, TURNS_KEPT);
-        }
-
-        int turnTickOf(int k) {
-            return turnTicks[turnPlace(k)];
-        }
-
-        int turnStateOf(int k) {
-            return turnStates[turnPlace(k)];
-        }
-
-        private int turnPlace(int k) {
-            return Math.floorMod(turns - turnsKept() + k, TURNS_KEPT);
         }
     }
 }
