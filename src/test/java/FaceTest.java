@@ -38,26 +38,47 @@ public final class FaceTest {
     private static void members() {
         Class<?> c = ModelSender.class;
         Due.is("public and final", c.getModifiers(), Modifier.PUBLIC | Modifier.FINAL);
+        yes("no class above it", c.getSuperclass() == Object.class && c.getInterfaces().length == 0);
         Set<String> methods = new TreeSet<>();
         Set<String> names = new TreeSet<>();
         for (Method m : c.getDeclaredMethods()) {
             if (Modifier.isPrivate(m.getModifiers()) || m.isSynthetic()) continue;
-            methods.add(m.toString().replace("public ", "").replace("ModelSender.", ""));
+            methods.add(m.toString());
             names.add(m.getName());
         }
-        yes("methods are those of the face: " + methods, methods.equals(METHODS));
+        for (Method m : c.getDeclaredMethods()) {
+            if (Modifier.isPrivate(m.getModifiers())) yes("no name of the face: " + m, !names.contains(m.getName()));
+        }
+        yes("methods are those of the face: " + methods, methods.equals(whole("public ", METHODS)));
         Set<String> fields = new TreeSet<>();
         for (Field f : c.getDeclaredFields()) {
             if (Modifier.isStatic(f.getModifiers())) yes("final " + f, Modifier.isFinal(f.getModifiers()));
-            if (!Modifier.isPrivate(f.getModifiers())) fields.add(f.getType() + " " + f.getName());
+            if (!Modifier.isPrivate(f.getModifiers())) fields.add(f.toString());
         }
-        yes("fields are those of the face: " + fields, fields.equals(FIELDS));
-        Due.is("constructors", c.getDeclaredConstructors().length, 1);
+        yes("fields are those of the face: " + fields, fields.equals(whole("public static final ", FIELDS)));
+        yes("the constructor of the face alone: " + Arrays.toString(c.getDeclaredConstructors()),
+            Arrays.toString(c.getDeclaredConstructors()).equals("[public ModelSender()]"));
+        innerClasses(c, names);
+    }
+
+    /** As reflection tells a member: with its modifiers, and its class ahead of its name. */
+    private static Set<String> whole(String modifiers, Set<String> members) {
+        Set<String> all = new TreeSet<>();
+        for (String member : members) all.add(modifiers + member.replace(" ", " ModelSender."));
+        return all;
+    }
+
+    private static void innerClasses(Class<?> c, Set<String> names) {
         yes("twelve classes at most", c.getDeclaredClasses().length <= 11);
         for (Class<?> inner : c.getDeclaredClasses()) {
             yes("static " + inner, Modifier.isStatic(inner.getModifiers()));
+            yes("private or package-visible " + inner, (inner.getModifiers() & (Modifier.PUBLIC | Modifier.PROTECTED)) == 0);
             yes("twenty fields at most in " + inner, inner.getDeclaredFields().length <= 20);
-            for (Method m : inner.getDeclaredMethods()) yes("no name of the face: " + m, !names.contains(m.getName()));
+            for (Field f : inner.getDeclaredFields()) yes("no static state: " + f, !Modifier.isStatic(f.getModifiers()));
+            for (Method m : inner.getDeclaredMethods()) {
+                yes("no name of the face: " + m, !names.contains(m.getName()));
+                yes("seven parameters at most: " + m, m.getParameterCount() <= 7);
+            }
         }
     }
 
